@@ -13,13 +13,6 @@ public final class CommitTest {
         return x.commit();
     }
 
-    private static void sameBytes(RefStack x, int table, int[] want) {
-        DUE.is("size(" + table + ")", x.size(table), want.length);
-        for (int k = 0; k < want.length; k++) {
-            DUE.is("byteAt(" + table + ", " + k + ")", x.byteAt(table, k), want[k]);
-        }
-    }
-
     private static void closing() {
         DUE.about("closing");
         RefStack x = new RefStack();
@@ -145,7 +138,7 @@ public final class CommitTest {
         x.update(n("heads/nexus"), RefStack.NONE, 127);
         x.update(n("c"), RefStack.NONE, 128);
         DUE.is("commit", x.commit(), 1);
-        sameBytes(x, 0, TableBytes.head(1, 1).varint(6)
+        DUE.sameBytes(x, 0, TableBytes.head(1, 1).varint(6)
                 .absent(0, "b", 0).number(0, "c", 0, 128).link(0, "head", 0, "heads/main")
                 .number(4, "s/main", 0, 20000)
                 .number(0, "heads/next", 0, 300).number(9, "us", 0, 127)
@@ -158,7 +151,7 @@ public final class CommitTest {
         set(x, "a", 5);
         int[] small = {82, 1, 1, 1, 0, 5, 1, 0, 5, 1, 0, 1, 1, 1, 0, 5, 0, 0};
         int[] checked = TableBytes.checked(java.util.Arrays.copyOf(small, small.length - 2));
-        sameBytes(x, 0, checked);
+        DUE.sameBytes(x, 0, checked);
     }
 
     /** The check of the digits 1 to 9 is known to be 0x29B1; so the tests' own check is right. */
@@ -191,7 +184,7 @@ public final class CommitTest {
         DUE.is("25 bytes", x.size(0), 25);
         links(x, 1, 1, 1, 1);
         DUE.is("13 bytes on 25 are merged", x.tables(), 1);
-        sameBytes(x, 0, TableBytes.head(1, 2).varint(2)
+        DUE.sameBytes(x, 0, TableBytes.head(1, 2).varint(2)
                 .link(0, "azzz", 0, "##########").link(0, "b", 1, "#").varint(0).checked());
         x = new RefStack();
         links(x, 2, 0, 12, 12);
@@ -213,11 +206,11 @@ public final class CommitTest {
         DUE.is("tables", x.tables(), 2);
         DUE.is("b", set(x, "zz", 7), 3);
         DUE.is("tables", x.tables(), 2);
-        sameBytes(x, 1, TableBytes.head(2, 3).varint(1).number(0, "zz", 1, 7)
+        DUE.sameBytes(x, 1, TableBytes.head(2, 3).varint(1).number(0, "zz", 1, 7)
                 .varint(2).entry(0, "zz", 3, 0, 7).entry(2, "", 2, 0, 0).checked());
         DUE.is("c", set(x, "zy", 0), 4);
         DUE.is("tables", x.tables(), 2);
-        sameBytes(x, 1, TableBytes.head(2, 4).varint(2).absent(0, "zy", 2).number(1, "z", 1, 7)
+        DUE.sameBytes(x, 1, TableBytes.head(2, 4).varint(2).absent(0, "zy", 2).number(1, "z", 1, 7)
                 .varint(3).entry(0, "zy", 4, 0, 0).entry(1, "z", 3, 0, 7).entry(2, "", 2, 0, 0).checked());
         DUE.is("absent ones stay above table 0", x.records(1), 2);
         DUE.is("compact", x.compact(), 2);
@@ -304,7 +297,7 @@ public final class CommitTest {
         Craft.overwrite(x, 0, TableBytes.checked(java.util.Arrays.copyOf(bytes, bytes.length - 2)));
         links(x, 1, 7, 1, 1);
         DUE.is("tables", x.tables(), 2);
-        sameBytes(x, 1, TableBytes.head(2, 91).varint(2)
+        DUE.sameBytes(x, 1, TableBytes.head(2, 91).varint(2)
                 .link(0, "g", 0, "#").link(0, "h", 89, "#").varint(0).checked());
     }
 

@@ -21,6 +21,14 @@ final class Due {
         is(call, got ? 1 : 0, want ? 1 : 0);
     }
 
+    /** The table has just these bytes. */
+    void sameBytes(RefStack x, int table, int[] want) {
+        is("size(" + table + ")", x.size(table), want.length);
+        for (int k = 0; k < want.length; k++) {
+            is("byteAt(" + table + ", " + k + ")", x.byteAt(table, k), want[k]);
+        }
+    }
+
     /** Ends the program with exit code 1 if some answer was wrong. */
     void end() {
         System.out.println(looked + " answers looked at, " + wrong + " not as due");

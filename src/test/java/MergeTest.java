@@ -20,13 +20,6 @@ public final class MergeTest {
         return x.commit();
     }
 
-    private static void sameBytes(RefStack x, int table, int[] want) {
-        DUE.is("size(" + table + ")", x.size(table), want.length);
-        for (int k = 0; k < want.length; k++) {
-            DUE.is("byteAt(" + table + ", " + k + ")", x.byteAt(table, k), want[k]);
-        }
-    }
-
     /** Four tables' worth of changes, which are two tables then. */
     private static RefStack twoTables() {
         RefStack x = new RefStack();
@@ -55,15 +48,15 @@ public final class MergeTest {
                 .varint(5).entry(0, "go", 2, 0, 0).entry(0, "heads/main", 1, 0, 1)
                 .entry(6, "next", 1, 0, 2).entry(0, "tags/one", 3, 300, 0)
                 .entry(0, "tags/one", 1, 0, 300).checked();
-        sameBytes(x, 0, want);
+        DUE.sameBytes(x, 0, want);
         DUE.is("compact one", x.compact(), 1);
-        sameBytes(x, 0, want);
+        DUE.sameBytes(x, 0, want);
         x = new RefStack();
         set(x, "a", 0);
         DUE.is("an absent one in table 0", x.records(0), 1);
         DUE.is("compact one", x.compact(), 1);
         DUE.is("leaves it out", x.records(0), 0);
-        sameBytes(x, 0, TableBytes.head(1, 1).varint(0).varint(1).entry(0, "a", 1, 0, 0).checked());
+        DUE.sameBytes(x, 0, TableBytes.head(1, 1).varint(0).varint(1).entry(0, "a", 1, 0, 0).checked());
         DUE.is("time goes on", set(x, "b", 1), 2);
     }
 
@@ -75,7 +68,7 @@ public final class MergeTest {
         x = twoTables();
         DUE.is("of 5 entries those before 2", x.expire(2), 3);
         DUE.is("tables", x.tables(), 1);
-        sameBytes(x, 0, TableBytes.head(1, 3).varint(3)
+        DUE.sameBytes(x, 0, TableBytes.head(1, 3).varint(3)
                 .link(0, "head", 0, "heads/main").number(4, "s/main", 0, 1).number(6, "next", 0, 2)
                 .varint(2).entry(0, "go", 2, 0, 0).entry(0, "tags/one", 3, 300, 0).checked());
         DUE.is("again", x.expire(2), 0);

@@ -287,24 +287,22 @@ public final class TableTest {
         no("equal, written in part", entries(2).entry(0, "abc", 7, 0, 0).entry(2, "c", 6, 0, 0));
         no("a beginning of the one before", entries(2).entry(0, "abc", 7, 0, 0).entry(2, "", 6, 0, 0));
         yes("longer than the one before", entries(2).entry(0, "abc", 7, 0, 0).entry(3, "d", 8, 0, 0));
-        TableBytes four = entries(5).entry(0, "ab", 9, 0, 1).entry(2, "", 8, 0, 1)
-                .entry(2, "", 7, 0, 1).entry(2, "", 6, 0, 1);
-        yes("entry 4 is whole", four.entry(0, "ab", 5, 0, 1));
-        four = entries(5).entry(0, "ab", 9, 0, 1).entry(2, "", 8, 0, 1)
-                .entry(2, "", 7, 0, 1).entry(2, "", 6, 0, 1);
-        no("entry 4 shares", four.entry(2, "", 5, 0, 1));
-        four = entries(5).entry(0, "ab", 9, 0, 1).entry(2, "", 8, 0, 1)
-                .entry(2, "", 7, 0, 1).entry(2, "", 6, 0, 1);
-        no("entry 4 at the same time", four.entry(0, "ab", 6, 0, 1));
-        four = entries(5).entry(0, "ab", 9, 0, 1).entry(2, "", 8, 0, 1)
-                .entry(2, "", 7, 0, 1).entry(2, "", 6, 0, 1);
-        no("entry 4 falls", four.entry(0, "aa", 5, 0, 1));
+        yes("entry 4 is whole", fourOfFive().entry(0, "ab", 5, 0, 1));
+        no("entry 4 shares", fourOfFive().entry(2, "", 5, 0, 1));
+        no("entry 4 at the same time", fourOfFive().entry(0, "ab", 6, 0, 1));
+        no("entry 4 falls", fourOfFive().entry(0, "aa", 5, 0, 1));
         yes("40 entries", manyEntries(40));
         no("41 entries", manyEntries(41));
         TableBytes both = records(1).absent(0, "abc", 0);
         yes("the first entry does not share with a record", both.varint(1).entry(0, "abd", 5, 0, 0));
         both = records(1).absent(0, "abc", 0);
         yes("nor has it to come behind one", both.varint(1).entry(0, "abb", 5, 0, 0));
+    }
+
+    /** A table with five entries up to the fourth. */
+    private static TableBytes fourOfFive() {
+        return entries(5).entry(0, "ab", 9, 0, 1).entry(2, "", 8, 0, 1)
+                .entry(2, "", 7, 0, 1).entry(2, "", 6, 0, 1);
     }
 
     private static TableBytes manyEntries(int count) {
