@@ -14,17 +14,37 @@ final class Craft {
         return x;
     }
 
+    /**
+     * An object that has two tables, with these bytes: the higher one 13 to 175 of them, the lower
+     * one at least twice as many.
+     */
+    static RefStack with(int[] lower, int[] higher) {
+        RefStack x = new RefStack();
+        grow(x, lower.length);
+        List<List<long[]>> all = transactions(higher.length);
+        Calls.must(all.size() == 1);
+        commit(x, all.get(0));
+        Calls.must(x.tables() == 2);
+        overwrite(x, 1, higher);
+        overwrite(x, 0, lower);
+        return x;
+    }
+
     /** Gives an object without tables one table of so many bytes. */
     static void grow(RefStack x, int size) {
         for (List<long[]> links : transactions(size)) {
-            must(x.begin());
-            for (long[] link : links) {
-                must(x.link(link[0], link[1]));
-            }
-            must(x.commit() > 0);
+            commit(x, links);
         }
-        must(x.compact() >= 1);
-        must(x.tables() == 1 && x.size(0) == size);
+        Calls.must(x.compact() >= 1);
+        Calls.must(x.tables() == 1 && x.size(0) == size);
+    }
+
+    private static void commit(RefStack x, List<long[]> links) {
+        Calls.must(x.begin());
+        for (long[] link : links) {
+            Calls.must(x.link(link[0], link[1]));
+        }
+        Calls.must(x.commit() > 0);
     }
 
     /** Links by transactions that compact to a table of so many bytes. */
@@ -44,15 +64,15 @@ final class Craft {
             String to = "#".repeat(take - 4 - nameLength);
             all.get(all.size() - 1).add(new long[] {Name.of(name), Name.of(to)});
         }
-        must(rest == 0);
+        Calls.must(rest == 0);
         return all;
     }
 
     /** Makes the bytes of a table of the same length these ones. */
     static void overwrite(RefStack x, int table, int[] bytes) {
-        must(x.size(table) == bytes.length);
+        Calls.must(x.size(table) == bytes.length);
         for (int k = 0; k < bytes.length; k++) {
-            must(x.damage(table, k, bytes[k]));
+            Calls.must(x.damage(table, k, bytes[k]));
         }
     }
 
@@ -62,11 +82,5 @@ final class Craft {
             bytes[k] = x.byteAt(table, k);
         }
         return bytes;
-    }
-
-    private static void must(boolean condition) {
-        if (!condition) {
-            throw new IllegalStateException("a table could not be crafted");
-        }
     }
 }

@@ -79,7 +79,8 @@ public final class ModelTest {
             int time = below(200);
             check("expire", x.expire(time), model.expire(time));
         }
-        mostTables = Math.max(mostTables, x.tables());
+        mostTables = Math.max(mostTables, model.tables());
+        compareTop();
     }
 
     private void change() {
@@ -89,7 +90,7 @@ public final class ModelTest {
             check("link", x.link(name, to), model.link(name, to));
             return;
         }
-        int expected = oneOf(3) ? Math.max(x.get(name), -1) : oneOf(8) ? number() : -1;
+        int expected = oneOf(3) ? Math.max(model.get(name), -1) : oneOf(8) ? number() : -1;
         int number = oneOf(4) ? 0 : number();
         check("update", x.update(name, expected, number), model.update(name, expected, number));
     }
@@ -127,6 +128,7 @@ public final class ModelTest {
             int time = oneOf(10) ? Integer.MIN_VALUE : below(12) * (1 + below(3));
             check("expire", x.expire(time), model.expire(time));
         }
+        compareTop();
     }
 
     private void damage(int table, int k, int b) {
@@ -161,12 +163,24 @@ public final class ModelTest {
         }
     }
 
+    private void compareByte(int table, int k) {
+        check("byteAt(" + table + ", " + k + ")", x.byteAt(table, k), model.byteAt(table, k));
+    }
+
+    /** The size and the check of the highest table; so the bytes before the check are right, too. */
+    private void compareTop() {
+        int top = model.tables() - 1;
+        check("size", x.size(top), model.size(top));
+        compareByte(top, model.size(top) - 2);
+        compareByte(top, model.size(top) - 1);
+    }
+
+    /** As many bytes as there are calls left. */
     private void compareTables() {
-        for (int table = 0; table < model.tables.size(); table++) {
-            int[] bytes = model.tables.get(table);
-            due.is("run " + run + " size(" + table + ")", x.size(table), bytes.length);
-            for (int k = 0; k < bytes.length; k++) {
-                due.is("run " + run + " byteAt(" + table + ", " + k + ")", x.byteAt(table, k), bytes[k]);
+        for (int table = 0; table < model.tables() && calls < CALLS; table++) {
+            check("size", x.size(table), model.size(table));
+            for (int k = 0; k < model.size(table) && calls < CALLS; k++) {
+                compareByte(table, k);
             }
         }
     }
@@ -218,7 +232,7 @@ public final class ModelTest {
         if (run % 4 == 0) {
             craft();
         }
-        while (calls < CALLS - 40) {
+        while (calls < CALLS - 120) {
             int choice = below(20);
             if (choice < 9) {
                 transaction();

@@ -4,6 +4,9 @@ import java.util.List;
 /** A row of bytes that a test writes piece by piece, right or wrong as it likes. */
 final class TableBytes {
     private final List<Integer> bytes = new ArrayList<>();
+    private int varints;
+    private int spoiled = -1;
+    private int[] tail;
 
     static TableBytes head(int low, int high) {
         return new TableBytes().raw(82).varint(low).varint(high);
@@ -23,7 +26,24 @@ final class TableBytes {
             rest /= 128;
         }
         bytes.add(rest);
+        if (varints == spoiled) {
+            bytes.set(bytes.size() - 1, rest + 128);
+            raw(tail);
+        }
+        varints++;
         return this;
+    }
+
+    /** The varint number which (from 0) will go on with these bytes where it should end. */
+    TableBytes spoil(int which, int... bytesBehind) {
+        spoiled = which;
+        tail = bytesBehind;
+        return this;
+    }
+
+    /** How many varints were written so far. */
+    int varints() {
+        return varints;
     }
 
     TableBytes symbols(String text) {
