@@ -118,6 +118,11 @@ public final class Promise05WritingTest {
         due.is("30 bytes", x.size(0), 30);
         due.is("128", Calls.change(x, "z>#"), 128);
         due.sameBytes(x, 1, new TableBytes().raw(82, 128, 1, 128, 1, 1, 0, 6, 26, 0, 1, 31, 0).checked());
+        x = Craft.with(TableBytes.head(1, 1999).varint(1).link(0, "abcdefghijkl", 0, "######")
+                .varint(0).checked());
+        due.is("30 bytes", x.size(0), 30);
+        due.is("2000", Calls.change(x, "z>#"), 2000);
+        due.sameBytes(x, 1, new TableBytes().raw(82, 208, 15, 208, 15, 1, 0, 6, 26, 0, 1, 31, 0).checked());
     }
 
     static void timesFarFromLow(Due due) {
@@ -249,6 +254,20 @@ public final class Promise05WritingTest {
         due.sameBytes(x, 0, TableBytes.head(1, 5).varint(1).number(0, "ab", 4, 5)
                 .varint(5).entry(0, "ab", 5, 4, 5).entry(2, "", 4, 3, 4).entry(2, "", 3, 2, 3)
                 .entry(2, "", 2, 1, 2).entry(0, "ab", 1, 0, 1).checked());
+    }
+
+    static void whatWasReadBeforeIsNotMerged(Due due) {
+        RefStack x = Calls.having("a=1", "b=2", "bzzzzzzzzzzz>############", "czzzzzzzzzzz>############");
+        Calls.change(x, "dzzzz>##########");
+        Calls.change(x, "e>#");
+        due.is("tables", x.tables(), 3);
+        due.is("an entry that is not the last one", x.log(n("a"), 0, 0), 1);
+        due.is("a name that is not the last one", x.scan(0, 0), n("a"));
+        due.is("commit", Calls.change(x, "f>#"), 4);
+        due.is("tables then", x.tables(), 2);
+        due.sameBytes(x, 1, TableBytes.head(2, 4).varint(3).link(0, "dzzzz", 0, "##########")
+                .link(0, "e", 1, "#").link(0, "f", 2, "#").varint(0).checked());
+        due.is("log", x.log(n("b"), 0, 2), 2);
     }
 
     static void ofEqualTimesTheHigherEntryAloneIsKept(Due due) {
