@@ -492,6 +492,9 @@ public final class RefStack {
         }
 
         private boolean checkIsRight() {
+            if (end < 0 || end + 1 >= MOST_BYTES) {
+                return false;
+            }
             return table.checkOf(end) == (table.bytes[end] << 8 | table.bytes[end + 1]);
         }
 
@@ -805,12 +808,16 @@ public final class RefStack {
             return i >= 0 && i < height ? slots[i] : null;
         }
 
-        /** The table of a slot, in use or not; i is a slot's number. */
+        /**
+         * The table of a slot, in use or not. There is no call for a slot beyond the last, but the
+         * index is looked at here, so that this needs no proof elsewhere.
+         */
         private Table tableIn(int i) {
-            if (slots[i] == null) {
-                slots[i] = new Table();
+            int slot = Math.max(0, Math.min(i, SLOTS - 1));
+            if (slots[slot] == null) {
+                slots[slot] = new Table();
             }
-            return slots[i];
+            return slots[slot];
         }
 
         boolean isDamaged() {
